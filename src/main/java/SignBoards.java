@@ -1,4 +1,7 @@
-/** Sign boards along roads, and the names that must go on from board to board until their goal. */
+/**
+ * Sign boards along roads, and the names that must go on from board to board until their goal.
+ * The methods of the face look at every number they are given, so that the classes inside may trust theirs.
+ */
 public final class SignBoards {
     public static final int BAD = -1;
 
@@ -171,7 +174,7 @@ public final class SignBoards {
         sheet.lay(boards[board], inForce, speed);
         switch (axis) {
             case 0:
-                return sheet.fullWidth();
+                return sheet.fullWidth;
             case 1:
                 return sheet.fullHeight();
             default:
@@ -271,7 +274,7 @@ public final class SignBoards {
 
         /** BAD behind the last sign, so that a reader can look there without a test of its own. */
         int signAt(int place) {
-            return isWithin(place, 0, length - 1) ? signs[place] : BAD;
+            return place >= 0 && place < length ? signs[place] : BAD;
         }
 
         void clear() {
@@ -285,7 +288,7 @@ public final class SignBoards {
         private int goalNode = BAD;
 
         void take(Text text) {
-            length = Math.min(text.length, LONGEST_NAME);
+            length = text.length;
             for (int i = 0; i < length; i++) {
                 signs[i] = text.signAt(i);
             }
@@ -487,9 +490,7 @@ public final class SignBoards {
         }
 
         void setWidth(int letter, int width) {
-            if (isLetter(letter)) {
-                widths[letter - FIRST_LETTER] = width;
-            }
+            widths[letter - FIRST_LETTER] = width;
         }
 
         boolean setKern(int first, int second, int value) {
@@ -507,21 +508,19 @@ public final class SignBoards {
         }
 
         int fieldOf(Name name) {
-            return name.length < 1 ? 0 : startOf(name, name.length - 1) + widthOf(name.signs[name.length - 1]);
+            return startOf(name, name.length);
         }
 
-        /** Where a letter begins behind the name's left end. */
+        /** Where a letter begins behind the name's left end; for the one behind the last, where the name ends. */
         int startOf(Name name, int letter) {
             int start = 0;
-            int end = Math.min(letter, name.length - 1);
-            for (int i = 0; i < end; i++) {
-                start += widthOf(name.signs[i]) + kernOf(name.signs[i], name.signs[i + 1]);
+            for (int i = 0; i < letter; i++) {
+                start += widths[name.signs[i] - FIRST_LETTER];
+                if (i + 1 < name.length) {
+                    start += kernOf(name.signs[i], name.signs[i + 1]);
+                }
             }
             return start;
-        }
-
-        private int widthOf(int letter) {
-            return isLetter(letter) ? widths[letter - FIRST_LETTER] : 0;
         }
 
         private int kernOf(int first, int second) {
@@ -584,7 +583,9 @@ public final class SignBoards {
             for (int round = 0; round < NODES && changed; round++) {
                 changed = false;
                 for (int way = 0; way < ways; way++) {
-                    changed |= shortenBy(way);
+                    if (shortenBy(way)) {
+                        changed = true;
+                    }
                 }
             }
         }
@@ -715,11 +716,13 @@ public final class SignBoards {
     private static final class Sheet {
         private final Name[] names;
         private final Letters letters;
+        private final int[] fields = new int[MOST_LINES];
         private Board board;
         private int mm;
         private int high;
         private int margin;
         private int gap;
+        private int fullWidth;
 
         Sheet(Name[] names, Letters letters) {
             this.names = names;
@@ -732,14 +735,13 @@ public final class SignBoards {
             high = mm * UNITS_OF_MM;
             margin = rules.margin * UNITS_OF_MM;
             gap = rules.gap * UNITS_OF_MM;
-        }
-
-        int fullWidth() {
-            int widest = board.lines < 1 ? 0 : lineWidth(0);
-            for (int line = 1; line < board.lines; line++) {
-                widest = Math.max(widest, lineWidth(line));
+            int widest = 0;
+            for (int line = 0; line < board.lines; line++) {
+                fields[line] = letters.fieldOf(nameOf(line)) * mm;
+                // Kerns may make all lines narrower than 0, so the first one is not measured against that.
+                widest = line == 0 ? lineWidth(line) : Math.max(widest, lineWidth(line));
             }
-            return Math.max(widest + 2 * margin, board.leastMm * UNITS_OF_MM);
+            fullWidth = Math.max(widest + 2 * margin, board.leastMm * UNITS_OF_MM);
         }
 
         int fullHeight() {
@@ -765,22 +767,18 @@ public final class SignBoards {
             return names[board.lineNames[line]];
         }
 
-        private int fieldWidth(int line) {
-            return letters.fieldOf(nameOf(line)) * mm;
-        }
-
         private int lineWidth(int line) {
-            return fieldWidth(line) + gap + high;
+            return fields[line] + gap + high;
         }
 
         private int lineLeft(int line) {
-            int rest = fullWidth() - 2 * margin - lineWidth(line);
+            int rest = fullWidth - 2 * margin - lineWidth(line);
             return margin + rest / 2;
         }
 
         private int arrowLeft(int line) {
             int left = lineLeft(line);
-            return board.arrows[line] == ARROW_RIGHT ? left + fieldWidth(line) + gap : left;
+            return board.arrows[line] == ARROW_RIGHT ? left + fields[line] + gap : left;
         }
 
         private int letterLeft(int line, int letter) {

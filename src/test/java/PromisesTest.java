@@ -31,6 +31,7 @@ public final class PromisesTest {
         promise18();
         promise19();
         promise19Reach();
+        promise19Full();
         promise20();
         CHECK.finish();
     }
@@ -221,6 +222,7 @@ public final class PromisesTest {
         due("6 an old pair", x.kern('A', 'V', 5), true);
         due("6 it has changed", x.width(0, 1), 2400 + 1600 + 500);
         due("6 sixty pairs", x.count(3), 60);
+        due("6 a pair that has none", x.width(name(x, "~~"), 1), 1600);
     }
 
     private static void promise7() {
@@ -453,6 +455,14 @@ public final class PromisesTest {
         }
         rules(y, "o a");
         dueRows("signs", y, 3, 2, 1, 0, 4);
+        SignBoards z = new SignBoards();
+        z.way(0, 1, 1);
+        z.board(0);
+        for (String each : new String[] {"abcdefghijkl", "abcdefghijkl", "abcdefghijkk", "abcdefghijk"}) {
+            z.on(0, name(z, each), 0);
+        }
+        rules(z, "o a");
+        dueRows("long names", z, 3, 2, 0, 1);
     }
 
     private static void promise15() {
@@ -727,6 +737,34 @@ public final class PromisesTest {
             z.on(way, 0, 0);
         }
         due("19 a long chain", z.count(4), 0);
+    }
+
+    /** As many names, ways, boards, lines and breaks as there may be. */
+    private static void promise19Full() {
+        SignBoards x = new SignBoards();
+        for (int i = 0; i < 24; i++) {
+            x.way(i % 10, i % 10, 1 + i);
+        }
+        for (int i = 0; i < 10; i++) {
+            name(x, "N");
+            x.goal(i, 9);
+        }
+        for (int i = 0; i < 8; i++) {
+            x.board(i + 16 == 19 ? 0 : i + 16);
+            for (int line = 0; line < 5; line++) {
+                x.on(i, line + 5 * (i % 2), 0);
+            }
+        }
+        due("19 forty", x.count(4), 40);
+        dueBreak(x, 0, 0, 16, 1);
+        dueBreak(x, 39, 9, 23, 1);
+        dueBreak(x, 40, BAD, BAD, BAD);
+        due("19 distance on the last way", x.distance(7, 4), BAD);
+        x.goal(9, 3);
+        due("19 distance of the last name", x.distance(7, 4), 0);
+        due("19 one less", x.count(4), 39);
+        due("19 size of the last board", x.size(7, 0, 1), 2400);
+        due("19 last item of the last board", x.drawn(7, 1, 9, 1), 1600);
     }
 
     private static void promise20() {
