@@ -214,6 +214,13 @@ public final class DrawingEdgesTest {
         CHECK.due("a line below 0", y.size(0, 0, 1), 0);
         y.wide(0, 1);
         CHECK.due("a line below 0, made 1 wide", y.size(0, 0, 1), 16);
+        Check.rules(y, "h 1 1;m 2 0");
+        CHECK.due("a line below 0 between margins", y.size(0, 0, 1), 64 - 16);
+        y.wide(0, 3);
+        CHECK.due("the same, made just as wide", y.size(0, 0, 1), 48);
+        y.wide(0, 4);
+        CHECK.due("the same, made wider", y.size(0, 0, 1), 64);
+        CHECK.due("its arrow is shifted by half the rest", y.drawn(0, 1, 0, 1), 32 + 8);
     }
 
     private static void items() {

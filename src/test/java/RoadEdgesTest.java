@@ -354,6 +354,12 @@ public final class RoadEdgesTest {
         CHECK.due("back along others", x.distance(0, 0), 4 + 1 + 3);
         x.goal(0, 2);
         CHECK.due("another goal", x.distance(0, 0), 4);
+        SignBoards y = new SignBoards();
+        ways(y, way(1, 2, 6), way(0, 1, 9), way(2, 3, 7));
+        y.board(1);
+        y.on(0, Check.name(y, "N"), 0);
+        y.goal(0, 3);
+        CHECK.due("along the first and the last way", y.distance(0, 0), 6 + 7);
     }
 
     private static void noDistance() {

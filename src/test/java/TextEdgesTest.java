@@ -188,17 +188,34 @@ public final class TextEdgesTest {
             {40, 80 + 5 + 6, 1}, {40, 80, 0}, {100, 200 + 5 + 6, 0}, {100, 200, 1}, {100, 200 + 5 + 6, 1}, {40, 80, 1},
             {40, 80 + 5 + 6, 0},
         };
-        for (int i = 0; i < texts.length; i++) {
-            SignBoards x = Scene.board(FULL_RULES, 0, "b", "a");
-            Check.rules(x, texts[i]);
-            CHECK.due("height behind " + texts[i], x.height(11), want[i][0]);
-            CHECK.due("size behind " + texts[i], x.size(0, 1, 11), 16 * want[i][1]);
-            CHECK.due("row behind " + texts[i], x.row(0, 0), want[i][2]);
+        // Other rules are told, or refused, several times before, so that none of them may be left over.
+        String[][] before = {
+            {}, {FULL_RULES}, {FULL_RULES, FULL_RULES}, {FULL_RULES, FULL_RULES, FULL_RULES},
+            {"h 7 7;m 9 9;o f;x"}, {FULL_RULES, "h 7 7;m 9 9;o f;x"}, {"h 7 7;m 9 9;o f", FULL_RULES, "m 9 9;"},
+        };
+        for (String[] each : before) {
+            for (int i = 0; i < texts.length; i++) {
+                SignBoards x = Scene.board("", 0, "b", "a");
+                for (String text : each) {
+                    Check.rules(x, text);
+                }
+                Check.rules(x, texts[i]);
+                CHECK.due("height behind " + texts[i], x.height(11), want[i][0]);
+                CHECK.due("size behind " + texts[i], x.size(0, 1, 11), 16 * want[i][1]);
+                CHECK.due("row behind " + texts[i], x.row(0, 0), want[i][2]);
+            }
         }
-        SignBoards x = Scene.board("h 1 1,2 2,3 3,4 4,5 5", 0);
+        SignBoards x = new SignBoards();
+        for (int i = 0; i < 3; i++) {
+            Check.rules(x, "h 1 1,2 2,3 3,4 4,5 5");
+        }
         Check.rules(x, "h 3 7");
         CHECK.due("of five speeds only the new one", x.height(1), 7);
         CHECK.due("of five speeds only the new one", x.height(5), 7);
+        Check.rules(x, "o n");
+        for (int speed = 1; speed <= 6; speed++) {
+            CHECK.due("no speeds, height at " + speed, x.height(speed), 100);
+        }
     }
 
     private static void numberOfTheSign() {
